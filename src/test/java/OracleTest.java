@@ -1,0 +1,184 @@
+import java.util.Map;
+import java.util.Random;
+
+/** Circuits by chance (of fixed seeds), each answer compared with a run on all amplitudes. */
+public final class OracleTest {
+    private static final Due DUE = new Due();
+
+    public static void main(String[] args) {
+        for (int seed = 0; seed < 1500 && DUE.allRight(); seed++) {
+            Random random = new Random(seed);
+            FrameSamples x = new FrameSamples();
+            compareAnew(x, random, seed, 1 + random.nextInt(5), 1 + random.nextInt(120));
+            // The same object again, so that nothing of the first circuit may be left.
+            compareAnew(x, random, seed, 1 + random.nextInt(4), 1 + random.nextInt(60));
+        }
+        for (int seed = 5000; seed < 5012 && DUE.allRight(); seed++) {
+            compareAnew(new FrameSamples(), new Random(seed), seed, 6 + seed % 5, 420);
+        }
+        DUE.end();
+    }
+
+    private static void compareAnew(FrameSamples x, Random random, int seed, int wires, int calls) {
+        Circuit circuit = new Circuit(wires);
+        DUE.is("seed " + seed + ": begin", x.begin(wires), true);
+        int looking = 3 + random.nextInt(12);
+        for (int i = 0; i < calls; i++) {
+            int choice = random.nextInt(20);
+            if (choice == 0) {
+                addCheck(x, circuit, random, seed);
+            } else if (choice <= 2) {
+                addFault(x, circuit, random, seed);
+            } else if (random.nextInt(looking) == 0) {
+                addLook(x, circuit, random, seed);
+            } else {
+                addGate(x, circuit, random, seed);
+            }
+            if (random.nextInt(60) == 0) {
+                compare(x, circuit, random, seed);
+            }
+        }
+        compare(x, circuit, random, seed);
+    }
+
+    /** A number that is mostly one of 0 .. size - 1. */
+    private static int mostlyBelow(int size, Random random) {
+        return random.nextInt(30) == 0 ? random.nextInt(5) * size - 1 : random.nextInt(size);
+    }
+
+    private static void addGate(FrameSamples x, Circuit circuit, Random random, int seed) {
+        int kind = mostlyBelow(7, random);
+        int a = mostlyBelow(circuit.wires, random);
+        int b = mostlyBelow(circuit.wires, random);
+        boolean two = kind >= 2 && kind <= 4;
+        boolean good = kind >= 0 && kind < 7 && a >= 0 && a < circuit.wires && circuit.acts.size() < 300
+            && (!two || b >= 0 && b < circuit.wires && a != b);
+        DUE.is("seed " + seed + ": gate(" + kind + ", " + a + ", " + b + ")", x.gate(kind, a, b), good);
+        if (good) {
+            circuit.acts.add(new int[] {kind, a, b, 0});
+        }
+    }
+
+    private static void addLook(FrameSamples x, Circuit circuit, Random random, int seed) {
+        int a = mostlyBelow(circuit.wires, random);
+        boolean reset = random.nextInt(3) == 0;
+        int number = circuit.looks();
+        boolean good = a >= 0 && a < circuit.wires && number < 60 && circuit.acts.size() < 300;
+        DUE.is("seed " + seed + ": look(" + a + ", " + reset + ")", x.look(a, reset), good ? number : -1);
+        if (good) {
+            circuit.acts.add(new int[] {reset ? Circuit.RESET : Circuit.LOOK, a, 0, 0});
+        }
+    }
+
+    private static void addFault(FrameSamples x, Circuit circuit, Random random, int seed) {
+        int what = mostlyBelow(3, random);
+        int a = mostlyBelow(circuit.wires, random);
+        int k = mostlyBelow(17, random);
+        int number = circuit.faults();
+        boolean good = what >= 0 && what < 3 && a >= 0 && a < circuit.wires && k >= 0 && k <= 16
+            && number < 40 && circuit.acts.size() < 300;
+        DUE.is("seed " + seed + ": fault(" + what + ", " + a + ", " + k + ")", x.fault(what, a, k),
+            good ? number : -1);
+        if (good) {
+            circuit.acts.add(new int[] {Circuit.FAULT, a, what, k});
+        }
+    }
+
+    private static void addCheck(FrameSamples x, Circuit circuit, Random random, int seed) {
+        int looks = circuit.looks();
+        long there = (1L << looks) - 1;
+        long set = random.nextLong() & there;
+        if (random.nextInt(3) != 0) {
+            set &= random.nextLong() & random.nextLong();
+        }
+        if (random.nextInt(15) == 0) {
+            set |= 1L << looks + random.nextInt(64 - looks);
+        }
+        boolean good = (set & ~there) == 0L && circuit.checks.size() < 16;
+        DUE.is("seed " + seed + ": check(" + set + ")", x.check(set), good ? circuit.checks.size() : -1);
+        if (good) {
+            circuit.checks.add(set);
+        }
+    }
+
+    private static void compare(FrameSamples x, Circuit circuit, Random random, int seed) {
+        String where = "seed " + seed + " at act " + circuit.acts.size();
+        DUE.totals(where, x, circuit.wires, circuit.acts.size(), circuit.looks(), circuit.faults(),
+            circuit.checks.size(), circuit.edges().size());
+        long randoms = compareOutcomes(x, circuit, where);
+        compareChanges(x, circuit, where);
+        compareEdges(x, circuit, where);
+        for (int i = 0; i < 4; i++) {
+            long set = random.nextLong() & (1L << circuit.faults()) - 1;
+            compareRun(x, circuit, set, random.nextLong(), randoms, where);
+        }
+    }
+
+    /** The random looks. */
+    private static long compareOutcomes(FrameSamples x, Circuit circuit, String where) {
+        long[] seen = new long[1];
+        long constants = circuit.sample(0L, seen);
+        long randoms = seen[0];
+        long[] sets = new long[60];
+        for (int r = 0; r < circuit.looks(); r++) {
+            if ((randoms >>> r & 1) != 0) {
+                long differ = circuit.sample(1L << r, seen) ^ constants;
+                for (int i = 0; i < 60; i++) {
+                    sets[i] |= (differ >>> i & 1) << r;
+                }
+            }
+        }
+        for (int i = 0; i < circuit.looks(); i++) {
+            DUE.is(where + ": outcome(" + i + ", 0)", x.outcome(i, 0), constants >>> i & 1);
+            DUE.is(where + ": outcome(" + i + ", 1)", x.outcome(i, 1), sets[i]);
+        }
+        for (int c = 0; c < circuit.checks.size(); c++) {
+            long looks = circuit.checks.get(c);
+            long set = 0L;
+            for (int i = 0; i < circuit.looks(); i++) {
+                set ^= (looks >>> i & 1) != 0 ? sets[i] : 0L;
+            }
+            DUE.is(where + ": told(" + c + ", 0)", x.told(c, 0), set == 0L ? 1 : 0);
+            DUE.is(where + ": told(" + c + ", 1)", x.told(c, 1), Long.bitCount(looks & constants) % 2);
+            DUE.is(where + ": told(" + c + ", 2)", x.told(c, 2), set);
+        }
+        return randoms;
+    }
+
+    private static void compareChanges(FrameSamples x, Circuit circuit, String where) {
+        for (int f = 0; f < circuit.faults(); f++) {
+            DUE.is(where + ": changes(" + f + ", 0)", x.changes(f, 0), circuit.changed(f));
+            DUE.is(where + ": changes(" + f + ", 1)", x.changes(f, 1), circuit.changedChecks(f));
+        }
+    }
+
+    private static void compareEdges(FrameSamples x, Circuit circuit, String where) {
+        int i = 0;
+        for (Map.Entry<Long, Long> edge : circuit.edges().entrySet()) {
+            DUE.is(where + ": edge(" + i + ", 0)", x.edge(i, 0), edge.getKey());
+            DUE.is(where + ": edge(" + i + ", 1)", x.edge(i, 1), edge.getValue());
+            if (Long.bitCount(edge.getValue()) > 15) {
+                DUE.edgeThrows(x, i, 2);
+                DUE.edgeThrows(x, i, 3);
+            } else {
+                long[] odds = circuit.odds(edge.getValue());
+                DUE.is(where + ": edge(" + i + ", 2)", x.edge(i, 2), odds[0]);
+                DUE.is(where + ": edge(" + i + ", 3)", x.edge(i, 3), odds[1]);
+            }
+            i++;
+        }
+        DUE.is(where + ": edge(" + i + ", 0)", x.edge(i, 0), -1);
+    }
+
+    private static void compareRun(FrameSamples x, Circuit circuit, long faults, long tells, long randoms,
+            String where) {
+        long changed = 0L;
+        for (int f = 0; f < circuit.faults(); f++) {
+            changed ^= (faults >>> f & 1) != 0 ? circuit.changed(f) : 0L;
+        }
+        String call = where + ": run(" + faults + ", " + tells + ")";
+        long told = x.run(faults, tells);
+        DUE.is(call, told, circuit.sample(tells, new long[1]) ^ changed);
+        DUE.is(call + " can happen", circuit.leastOdds(told, faults, randoms) > 0.9, true);
+    }
+}
