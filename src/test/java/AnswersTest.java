@@ -28,27 +28,27 @@ public final class AnswersTest {
         DUE.end();
     }
 
-    private static FrameSamples circuit(int n, int... gates) {
-        FrameSamples x = new FrameSamples();
+    private static Tried circuit(int n, int... gates) {
+        Tried x = new Tried();
         x.begin(n);
         add(x, gates);
         return x;
     }
 
     /** Gates as triples of kind, a, b. */
-    private static void add(FrameSamples x, int... gates) {
+    private static void add(Tried x, int... gates) {
         for (int i = 0; i + 2 < gates.length; i += 3) {
             DUE.is("gate", x.gate(gates[i], gates[i + 1], gates[i + 2]), true);
         }
     }
 
-    private static void outcome(String what, FrameSamples x, int look, long constant, long randoms) {
+    private static void outcome(String what, Tried x, int look, long constant, long randoms) {
         DUE.is(what + ": constant", x.outcome(look, 0), constant);
         DUE.is(what + ": randoms", x.outcome(look, 1), randoms);
     }
 
     private static void looks(String what, int n, long want, int... gates) {
-        FrameSamples x = circuit(n, gates);
+        Tried x = circuit(n, gates);
         for (int a = 0; a < n; a++) {
             x.look(a, false);
             outcome(what + ", wire " + a, x, a, want >>> a & 1, 0L);
@@ -82,7 +82,7 @@ public final class AnswersTest {
     }
 
     private static void outcomeOfResets() {
-        FrameSamples x = circuit(2, H, 0, 0);
+        Tried x = circuit(2, H, 0, 0);
         DUE.is("reset", x.look(0, true), 0);
         x.look(0, false);
         add(x, X, 0, 0);
@@ -102,7 +102,7 @@ public final class AnswersTest {
     }
 
     private static void outcomeOfPairs() {
-        FrameSamples x = circuit(3, H, 0, 0, CX, 0, 1, CX, 1, 2, X, 1, 0);
+        Tried x = circuit(3, H, 0, 0, CX, 0, 1, CX, 1, 2, X, 1, 0);
         x.look(2, true);
         x.look(1, false);
         x.look(0, true);
@@ -124,7 +124,7 @@ public final class AnswersTest {
 
     /** A state handed over by two looks, with what they told made good by later gates. */
     private static void handedOver() {
-        FrameSamples x = circuit(3, X, 0, 0, H, 1, 0, CX, 1, 2, CX, 0, 1, H, 0, 0);
+        Tried x = circuit(3, X, 0, 0, H, 1, 0, CX, 1, 2, CX, 0, 1, H, 0, 0);
         x.look(0, false);
         x.look(1, false);
         x.look(2, false);
@@ -134,7 +134,7 @@ public final class AnswersTest {
     }
 
     private static void told() {
-        FrameSamples x = circuit(3, H, 0, 0, CX, 0, 1, X, 1, 0, H, 2, 0);
+        Tried x = circuit(3, H, 0, 0, CX, 0, 1, X, 1, 0, H, 2, 0);
         for (int a = 0; a < 3; a++) {
             x.look(a, false);
         }
@@ -153,7 +153,7 @@ public final class AnswersTest {
 
     /** The looks that x, y and z of wire 0 change if these gates and looks at all wires follow. */
     private static void changed(String what, int n, long byX, long byY, long byZ, int... gates) {
-        FrameSamples x = circuit(n);
+        Tried x = circuit(n);
         for (int kind = 0; kind < 3; kind++) {
             x.fault(kind, 0, 1);
         }
@@ -185,7 +185,7 @@ public final class AnswersTest {
     }
 
     private static void changesAtLooks() {
-        FrameSamples x = circuit(2);
+        Tried x = circuit(2);
         x.look(0, false);
         x.fault(0, 0, 1);
         x.fault(1, 0, 1);
@@ -222,7 +222,7 @@ public final class AnswersTest {
     }
 
     private static void changesOfChecks() {
-        FrameSamples x = circuit(3);
+        Tried x = circuit(3);
         x.look(0, false);
         x.check(1L);
         x.fault(0, 0, 1);
@@ -245,14 +245,14 @@ public final class AnswersTest {
         DUE.is("all 16", x.changes(0, 1), 0xffff & ~(1 | 4 | 16));
     }
 
-    private static void edge(String what, FrameSamples x, int i, long... wants) {
+    private static void edge(String what, Tried x, int i, long... wants) {
         for (int k = 0; k < wants.length; k++) {
             DUE.is(what + ": edge(" + i + ", " + k + ")", x.edge(i, k), wants[k]);
         }
     }
 
     private static void edgesTogether() {
-        FrameSamples x = circuit(4);
+        Tried x = circuit(4);
         x.fault(0, 3, 16);
         x.fault(0, 1, 4);
         x.fault(0, 0, 4);
@@ -276,8 +276,8 @@ public final class AnswersTest {
         edge("no more", x, 3, -1, -1, -1, -1, -1);
     }
 
-    private static FrameSamples oneEdge(int... odds) {
-        FrameSamples x = circuit(1);
+    private static Tried oneEdge(int... odds) {
+        Tried x = circuit(1);
         for (int k : odds) {
             x.fault(k % 2, 0, k);
         }
@@ -287,7 +287,7 @@ public final class AnswersTest {
     }
 
     private static void odds(int... ks) {
-        FrameSamples x = oneEdge(ks);
+        Tried x = oneEdge(ks);
         BigInteger odd = BigInteger.ZERO;
         BigInteger even = BigInteger.ONE;
         for (int k : ks) {
@@ -332,7 +332,7 @@ public final class AnswersTest {
 
     private static void edgeWithManyFaults() {
         int[] many = new int[16];
-        FrameSamples x = oneEdge(many);
+        Tried x = oneEdge(many);
         edge("16 that never happen", x, 0, 1, 0xffff);
         DUE.edgeThrows(x, 0, 2);
         DUE.edgeThrows(x, 0, 3);
@@ -359,7 +359,7 @@ public final class AnswersTest {
     }
 
     private static void run() {
-        FrameSamples x = circuit(3, H, 0, 0);
+        Tried x = circuit(3, H, 0, 0);
         x.fault(0, 0, 0);
         x.fault(0, 2, 16);
         add(x, CX, 0, 1, X, 2, 0);
@@ -401,7 +401,7 @@ public final class AnswersTest {
     }
 
     private static void wrongNumbers() {
-        FrameSamples x = circuit(2, H, 0, 0);
+        Tried x = circuit(2, H, 0, 0);
         x.fault(0, 0, 1);
         x.look(0, false);
         x.check(1L);

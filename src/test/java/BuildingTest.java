@@ -15,14 +15,14 @@ public final class BuildingTest {
         DUE.end();
     }
 
-    private static FrameSamples wires(int n) {
-        FrameSamples x = new FrameSamples();
+    private static Tried wires(int n) {
+        Tried x = new Tried();
         DUE.is("begin(" + n + ")", x.begin(n), true);
         return x;
     }
 
     private static void newObject() {
-        FrameSamples x = new FrameSamples();
+        Tried x = new Tried();
         DUE.totals("new", x, 1, 0, 0, 0, 0, 0);
         DUE.is("new: gate on wire 1", x.gate(0, 1, 0), false);
         DUE.is("new: look at wire 1", x.look(1, false), -1);
@@ -33,14 +33,14 @@ public final class BuildingTest {
 
     private static void begin() {
         for (int n = 1; n <= 10; n++) {
-            FrameSamples x = wires(n);
+            Tried x = wires(n);
             DUE.totals("begin " + n, x, n, 0, 0, 0, 0, 0);
             DUE.is("the last wire", x.gate(5, n - 1, 0), true);
             DUE.is("no wire behind it", x.gate(5, n, 0), false);
             DUE.is("look at the last wire", x.look(n - 1, false), 0);
             DUE.is("it is 1", x.outcome(0, 0), 1);
         }
-        FrameSamples x = wires(2);
+        Tried x = wires(2);
         x.gate(0, 0, 0);
         x.gate(5, 1, 0);
         x.fault(0, 0, 3);
@@ -67,7 +67,7 @@ public final class BuildingTest {
     }
 
     private static void gate() {
-        FrameSamples x = wires(3);
+        Tried x = wires(3);
         int acts = 0;
         for (int kind = 0; kind <= 6; kind++) {
             boolean two = kind >= 2 && kind <= 4;
@@ -91,7 +91,7 @@ public final class BuildingTest {
     }
 
     private static void wrongGatesChangeNothing() {
-        FrameSamples x = wires(2);
+        Tried x = wires(2);
         x.gate(5, 0, 0);
         x.fault(0, 0, 1);
         x.gate(2, 0, 0);
@@ -107,7 +107,7 @@ public final class BuildingTest {
     }
 
     private static void lookNumbers() {
-        FrameSamples x = wires(4);
+        Tried x = wires(4);
         for (int i = 0; i < 60; i++) {
             for (int a : NUMBERS_OUTSIDE) {
                 DUE.is("look(" + a + ")", x.look(a, i % 2 == 0), -1);
@@ -123,7 +123,7 @@ public final class BuildingTest {
     }
 
     private static void faultNumbers() {
-        FrameSamples x = wires(4);
+        Tried x = wires(4);
         for (int i = 0; i < 40; i++) {
             DUE.is("fault", x.fault(i % 3, i % 4, i % 17), i);
         }
@@ -147,7 +147,7 @@ public final class BuildingTest {
     }
 
     private static void checkNumbers() {
-        FrameSamples x = wires(2);
+        Tried x = wires(2);
         DUE.is("look 0 is not there yet", x.check(1L), -1);
         DUE.is("no looks", x.check(0L), 0);
         DUE.is("no looks: sure", x.told(0, 0), 1);
@@ -177,7 +177,7 @@ public final class BuildingTest {
     }
 
     private static void actsEnd() {
-        FrameSamples x = wires(3);
+        Tried x = wires(3);
         x.look(0, false);
         x.look(0, true);
         x.fault(0, 0, 1);
@@ -195,7 +195,7 @@ public final class BuildingTest {
         DUE.is("begin", x.begin(3), true);
         DUE.is("gate", x.gate(0, 0, 0), true);
 
-        x.begin(2);
+        x = wires(2);
         for (int i = 0; i < 299; i++) {
             x.gate(5, 1, 0);
         }
@@ -205,7 +205,7 @@ public final class BuildingTest {
     }
 
     private static void total() {
-        FrameSamples x = wires(5);
+        Tried x = wires(5);
         x.gate(0, 0, 0);
         x.fault(0, 1, 4);
         x.fault(0, 2, 4);

@@ -1,13 +1,31 @@
 /** Compares answers with those that are due, and counts the wrong ones. */
 final class Due {
+    private String sentence = "";
     private int wrong;
     private int looked;
+    private int lookedBefore;
+
+    /** The document's sentence that the answers from here on belong to. */
+    void of(String words) {
+        endSentence();
+        sentence = words;
+        lookedBefore = looked;
+    }
+
+    private void endSentence() {
+        if (!sentence.isEmpty() && looked == lookedBefore) {
+            wrong++;
+            System.out.println("no answer is compared for: " + sentence);
+        }
+        sentence = "";
+    }
 
     void is(String call, long got, long want) {
         looked++;
         if (got != want) {
             wrong++;
-            System.out.println(call + " answered " + got + ", due is " + want);
+            String where = sentence.isEmpty() ? "" : "[" + sentence + "] ";
+            System.out.println(where + call + " answered " + got + ", due is " + want);
         }
     }
 
@@ -15,8 +33,12 @@ final class Due {
         is(call, got ? 1L : 0L, want ? 1L : 0L);
     }
 
+    void none(String call, long got) {
+        is(call, got, -1L);
+    }
+
     /** An edge's u or e where the document asks for an ArithmeticException. */
-    void edgeThrows(FrameSamples x, int i, int what) {
+    void edgeThrows(Tried x, int i, int what) {
         boolean thrown = false;
         try {
             x.edge(i, what);
@@ -27,7 +49,7 @@ final class Due {
     }
 
     /** All totals at once: wires, acts, looks, faults, checks, edges. */
-    void totals(String when, FrameSamples x, int... wants) {
+    void totals(String when, Tried x, int... wants) {
         for (int what = 0; what < wants.length; what++) {
             is(when + ": total(" + what + ")", x.total(what), wants[what]);
         }
@@ -38,6 +60,7 @@ final class Due {
     }
 
     void end() {
+        endSentence();
         System.out.println(looked + " answers, " + wrong + " of them wrong");
         if (wrong != 0 || looked == 0) {
             System.exit(1);

@@ -1,3 +1,6 @@
+import java.util.ArrayList;
+import java.util.Collections;
+import java.util.List;
 import java.util.Map;
 import java.util.Random;
 
@@ -8,18 +11,21 @@ public final class OracleTest {
     public static void main(String[] args) {
         for (int seed = 0; seed < 1500 && DUE.allRight(); seed++) {
             Random random = new Random(seed);
-            FrameSamples x = new FrameSamples();
+            Tried x = new Tried();
             compareAnew(x, random, seed, 1 + random.nextInt(5), 1 + random.nextInt(120));
             // The same object again, so that nothing of the first circuit may be left.
             compareAnew(x, random, seed, 1 + random.nextInt(4), 1 + random.nextInt(60));
         }
         for (int seed = 5000; seed < 5012 && DUE.allRight(); seed++) {
-            compareAnew(new FrameSamples(), new Random(seed), seed, 6 + seed % 5, 420);
+            compareAnew(new Tried(), new Random(seed), seed, 6 + seed % 5, 420);
+        }
+        for (int seed = 6000; seed < 6010 && DUE.allRight(); seed++) {
+            compareFull(new Random(seed), seed, 1 + seed % 10);
         }
         DUE.end();
     }
 
-    private static void compareAnew(FrameSamples x, Random random, int seed, int wires, int calls) {
+    private static void compareAnew(Tried x, Random random, int seed, int wires, int calls) {
         Circuit circuit = new Circuit(wires);
         DUE.is("seed " + seed + ": begin", x.begin(wires), true);
         int looking = 3 + random.nextInt(12);
@@ -41,12 +47,54 @@ public final class OracleTest {
         compare(x, circuit, random, seed);
     }
 
+    /** All limits at once: 300 acts, of them 60 looks and 40 faults, and 16 checks. */
+    private static void compareFull(Random random, int seed, int wires) {
+        Tried x = new Tried();
+        Circuit circuit = new Circuit(wires);
+        DUE.is("seed " + seed + ": begin", x.begin(wires), true);
+        List<Integer> order = new ArrayList<>();
+        for (int i = 0; i < 300; i++) {
+            order.add(i);
+        }
+        Collections.shuffle(order, random);
+        for (int i : order) {
+            addOneOf(x, circuit, random, seed, i);
+            if (i % 15 == 0 && circuit.checks.size() < 15) {
+                addCheck(x, circuit, random, seed);
+            }
+        }
+        for (int i = 0; i < 20; i++) {
+            addCheck(x, circuit, random, seed);
+        }
+        compare(x, circuit, random, seed);
+        DUE.totals("seed " + seed + ": full", x, wires, 300, 60, 40, 16);
+        addGate(x, circuit, random, seed);
+        addLook(x, circuit, random, seed);
+        addFault(x, circuit, random, seed);
+        addCheck(x, circuit, random, seed);
+        compare(x, circuit, random, seed);
+    }
+
+    /** Of 300: 60 looks, 40 faults, 200 gates, each tried until it is taken. */
+    private static void addOneOf(Tried x, Circuit circuit, Random random, int seed, int i) {
+        int acts = circuit.acts.size();
+        for (int tries = 0; tries < 100 && circuit.acts.size() == acts; tries++) {
+            if (i < 60) {
+                addLook(x, circuit, random, seed);
+            } else if (i < 100) {
+                addFault(x, circuit, random, seed);
+            } else {
+                addGate(x, circuit, random, seed);
+            }
+        }
+    }
+
     /** A number that is mostly one of 0 .. size - 1. */
     private static int mostlyBelow(int size, Random random) {
         return random.nextInt(30) == 0 ? random.nextInt(5) * size - 1 : random.nextInt(size);
     }
 
-    private static void addGate(FrameSamples x, Circuit circuit, Random random, int seed) {
+    private static void addGate(Tried x, Circuit circuit, Random random, int seed) {
         int kind = mostlyBelow(7, random);
         int a = mostlyBelow(circuit.wires, random);
         int b = mostlyBelow(circuit.wires, random);
@@ -59,7 +107,7 @@ public final class OracleTest {
         }
     }
 
-    private static void addLook(FrameSamples x, Circuit circuit, Random random, int seed) {
+    private static void addLook(Tried x, Circuit circuit, Random random, int seed) {
         int a = mostlyBelow(circuit.wires, random);
         boolean reset = random.nextInt(3) == 0;
         int number = circuit.looks();
@@ -70,7 +118,7 @@ public final class OracleTest {
         }
     }
 
-    private static void addFault(FrameSamples x, Circuit circuit, Random random, int seed) {
+    private static void addFault(Tried x, Circuit circuit, Random random, int seed) {
         int what = mostlyBelow(3, random);
         int a = mostlyBelow(circuit.wires, random);
         int k = mostlyBelow(17, random);
@@ -84,7 +132,7 @@ public final class OracleTest {
         }
     }
 
-    private static void addCheck(FrameSamples x, Circuit circuit, Random random, int seed) {
+    private static void addCheck(Tried x, Circuit circuit, Random random, int seed) {
         int looks = circuit.looks();
         long there = (1L << looks) - 1;
         long set = random.nextLong() & there;
@@ -101,7 +149,7 @@ public final class OracleTest {
         }
     }
 
-    private static void compare(FrameSamples x, Circuit circuit, Random random, int seed) {
+    private static void compare(Tried x, Circuit circuit, Random random, int seed) {
         String where = "seed " + seed + " at act " + circuit.acts.size();
         DUE.totals(where, x, circuit.wires, circuit.acts.size(), circuit.looks(), circuit.faults(),
             circuit.checks.size(), circuit.edges().size());
@@ -115,7 +163,7 @@ public final class OracleTest {
     }
 
     /** The random looks. */
-    private static long compareOutcomes(FrameSamples x, Circuit circuit, String where) {
+    private static long compareOutcomes(Tried x, Circuit circuit, String where) {
         long[] seen = new long[1];
         long constants = circuit.sample(0L, seen);
         long randoms = seen[0];
@@ -145,14 +193,14 @@ public final class OracleTest {
         return randoms;
     }
 
-    private static void compareChanges(FrameSamples x, Circuit circuit, String where) {
+    private static void compareChanges(Tried x, Circuit circuit, String where) {
         for (int f = 0; f < circuit.faults(); f++) {
             DUE.is(where + ": changes(" + f + ", 0)", x.changes(f, 0), circuit.changed(f));
             DUE.is(where + ": changes(" + f + ", 1)", x.changes(f, 1), circuit.changedChecks(f));
         }
     }
 
-    private static void compareEdges(FrameSamples x, Circuit circuit, String where) {
+    private static void compareEdges(Tried x, Circuit circuit, String where) {
         int i = 0;
         for (Map.Entry<Long, Long> edge : circuit.edges().entrySet()) {
             DUE.is(where + ": edge(" + i + ", 0)", x.edge(i, 0), edge.getKey());
@@ -170,7 +218,7 @@ public final class OracleTest {
         DUE.is(where + ": edge(" + i + ", 0)", x.edge(i, 0), -1);
     }
 
-    private static void compareRun(FrameSamples x, Circuit circuit, long faults, long tells, long randoms,
+    private static void compareRun(Tried x, Circuit circuit, long faults, long tells, long randoms,
             String where) {
         long changed = 0L;
         for (int f = 0; f < circuit.faults(); f++) {
