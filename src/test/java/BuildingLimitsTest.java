@@ -232,11 +232,10 @@ public final class BuildingLimitsTest {
         DUE.of("gate: false, changing nothing, if a is b (of 2 to 4)");
         for (int a = 0; a < 10; a++) {
             int both = a;
-            LIMITS.changeNothing(wires(10).andThen(gates(33)), x -> {
-                for (int kind : TWO_WIRE_KINDS) {
-                    DUE.is("gate(" + kind + ", a, a)", x.gate(kind, both, both), false);
-                }
-            });
+            for (int kind : TWO_WIRE_KINDS) {
+                LIMITS.changeNothing(wires(10).andThen(gates(33)).andThen(faults(30)),
+                    x -> DUE.is("gate(" + kind + ", a, a)", x.gate(kind, both, both), false));
+            }
             for (int kind : ONE_WIRE_KINDS) {
                 DUE.is("gate(" + kind + ", a, a)", made(wires(10)).gate(kind, a, a), true);
             }
