@@ -82,7 +82,7 @@ public final class AnswerLimitsTest {
     }
 
     private static void last512thCall() {
-        DUE.of("An object is used for at most 512 calls");
+        DUE.of("An object is used for at most 512 calls after it has been made;");
         FrameSamples x = new FrameSamples();
         x.begin(10);
         x.gate(5, 9, 0);
@@ -105,7 +105,7 @@ public final class AnswerLimitsTest {
     }
 
     private static void outcomeNumbers() {
-        DUE.of("outcome: NONE if there is none such");
+        DUE.of("1: the set of RANDOM LOOKS. NONE if there is none such,");
         for (Consumer<Tried> state : STATES) {
             int looks = made(state).total(2);
             LIMITS.changeNothing(state, x -> {
@@ -127,7 +127,7 @@ public final class AnswerLimitsTest {
     }
 
     private static void outcomeWhats() {
-        DUE.of("outcome: NONE for another what");
+        DUE.of("1: the set of RANDOM LOOKS. NONE if there is none such, or for another what.", "another what");
         Tried x = made(Limits::some);
         DUE.is("what 0", x.outcome(2, 0), 1);
         DUE.is("what 1", x.outcome(2, 1), 1);
@@ -141,7 +141,7 @@ public final class AnswerLimitsTest {
     }
 
     private static void outcomeOfRandomLooks() {
-        DUE.of("of a RANDOM one: of itself alone, constant 0");
+        DUE.of("(of a RANDOM one: of itself alone, constant 0).");
         Tried x = new Tried();
         for (int i = 0; i < 60; i++) {
             x.gate(0, 0, 0);
@@ -153,7 +153,7 @@ public final class AnswerLimitsTest {
     }
 
     private static void outcomeToldAgain() {
-        DUE.of("what it told it tells again, if asked at once");
+        DUE.of("what it told it tells again, if asked at once.)");
         for (int before : new int[] {0, 31, 32, 58}) {
             Tried x = made(y -> randomLooks(y, before));
             x.gate(0, 0, 0);
@@ -173,7 +173,7 @@ public final class AnswerLimitsTest {
     }
 
     private static void toldNumbers() {
-        DUE.of("told: NONE likewise (no such CHECK)");
+        DUE.of("2: the set of RANDOM LOOKS it hangs on. NONE likewise.", "no such check");
         for (Consumer<Tried> state : STATES) {
             int checks = made(state).total(4);
             LIMITS.changeNothing(state, x -> {
@@ -197,7 +197,7 @@ public final class AnswerLimitsTest {
     }
 
     private static void toldWhats() {
-        DUE.of("told: NONE likewise (another what)");
+        DUE.of("2: the set of RANDOM LOOKS it hangs on. NONE likewise.", "another what");
         Tried x = made(Limits::some);
         for (int what = 0; what <= 2; what++) {
             DUE.is("told(0, " + what + ")", x.told(0, what), new long[] {1, 1, 0}[what]);
@@ -213,7 +213,7 @@ public final class AnswerLimitsTest {
     }
 
     private static void toldSure() {
-        DUE.of("SURE is a CHECK if it hangs on no RANDOM one");
+        DUE.of("SURE is a CHECK if the exclusive or of its LOOKS' OUTCOMES hangs on no RANDOM one.");
         Tried x = made(y -> randomLooks(y, 58));
         x.look(0, false);
         x.gate(5, 0, 0);
@@ -231,7 +231,7 @@ public final class AnswerLimitsTest {
     }
 
     private static void changesNumbers() {
-        DUE.of("changes: NONE likewise (no such FAULT)");
+        DUE.of("as a set. NONE likewise.", "no such fault");
         for (Consumer<Tried> state : STATES) {
             int faults = made(state).total(3);
             LIMITS.changeNothing(state, x -> {
@@ -252,7 +252,7 @@ public final class AnswerLimitsTest {
     }
 
     private static void changesWhats() {
-        DUE.of("changes: NONE likewise (another what)");
+        DUE.of("as a set. NONE likewise.", "another what");
         Tried x = made(Limits::some);
         DUE.is("what 0", x.changes(0, 0), 4);
         DUE.is("what 1", x.changes(0, 1), 1);
@@ -266,7 +266,7 @@ public final class AnswerLimitsTest {
     }
 
     private static void changesFirstAndLast() {
-        DUE.of("a FAULT CHANGES LOOKS: the first and the last of 60, by the first and the last of 40");
+        DUE.of("Of a FAULT, what 0: the LOOKS that it CHANGES,");
         Tried x = new Tried();
         for (int i = 0; i < 20; i++) {
             x.look(0, true);
@@ -291,7 +291,7 @@ public final class AnswerLimitsTest {
     }
 
     private static void changesOddNumbers() {
-        DUE.of("CHECKS, an odd number of whose LOOKS it CHANGES");
+        DUE.of("1: the CHECKS (an odd number of whose LOOKS it CHANGES), as a set.");
         Tried x = new Tried();
         x.fault(0, 0, 1);
         for (int i = 0; i < 60; i++) {
@@ -307,7 +307,7 @@ public final class AnswerLimitsTest {
     }
 
     private static void signsCountForNothing() {
-        DUE.of("a sign counts for nothing; x a and z a change nothing");
+        DUE.of("x a and z a change nothing);", "x, y or z behind one gate");
         for (int what = 0; what <= 2; what++) {
             for (boolean turned : new boolean[] {false, true}) {
                 Tried x = new Tried();
@@ -325,7 +325,7 @@ public final class AnswerLimitsTest {
     }
 
     private static void edgeNumbers() {
-        DUE.of("edge: NONE if there is none such");
+        DUE.of("3: e. NONE if there is none such,");
         for (Consumer<Tried> state : STATES) {
             int edges = made(state).total(5);
             LIMITS.changeNothing(state, x -> {
@@ -339,7 +339,7 @@ public final class AnswerLimitsTest {
     }
 
     private static void edgeWhats() {
-        DUE.of("edge: NONE for another what");
+        DUE.of("3: e. NONE if there is none such, or for another what.", "another what");
         long[][] wants = {{1, 3, 49, 7}, {2, 4, 1, 0}};
         Tried x = made(Limits::some);
         for (int i = 0; i < wants.length; i++) {
@@ -357,7 +357,7 @@ public final class AnswerLimitsTest {
     }
 
     private static void edgeOfOneCheckAtLeast() {
-        DUE.of("EDGES: of CHECKS, one at least");
+        DUE.of("of just the same CHECKS (one at least), together;", "one at least");
         Tried x = new Tried();
         x.fault(2, 0, 16);
         x.fault(0, 0, 16);
@@ -377,7 +377,7 @@ public final class AnswerLimitsTest {
     }
 
     private static void edgeOfJustTheSameChecks() {
-        DUE.of("EDGES: of just the same CHECKS");
+        DUE.of("of just the same CHECKS (one at least), together;", "just the same");
         Tried x = made(y -> faultBeforeEachLook(y, 6));
         long[] checks = {1 | 4, 1 | 4 | 8, 1 | 2 | 4, 0, 0, 0, 0, 0, 0, 0, 0, 0, 0, 0, 0, 32};
         for (long looks : checks) {
@@ -399,7 +399,7 @@ public final class AnswerLimitsTest {
     }
 
     private static void edgesInOrder() {
-        DUE.of("EDGES in the order of their first FAULTS");
+        DUE.of("in the order of their first FAULTS.");
         Tried x = made(y -> faultBeforeEachLook(y, 40));
         x.check(1L << 39);
         DUE.is("the last fault's", x.edge(0, 1), 1L << 39);
@@ -414,7 +414,7 @@ public final class AnswerLimitsTest {
     }
 
     private static void edgesAsManyAsFaults() {
-        DUE.of("EDGES: as many as there may be FAULTS");
+        DUE.of("1: its FAULTS, 2: u of its odds, 3: e.", "as many edges as faults");
         Tried x = made(y -> faultBeforeEachLook(y, 40));
         for (int c = 0; c < 6; c++) {
             long looks = 0L;
@@ -441,7 +441,7 @@ public final class AnswerLimitsTest {
     }
 
     private static void edgeOdds() {
-        DUE.of("u / 2^e, with the least e, 0 or more");
+        DUE.of("u / 2^e, with the least e, 0 or more.");
         int[] us = {0, 1, 1, 3, 1, 5, 3, 7, 1, 9, 5, 11, 3, 13, 7, 15, 1};
         int[] es = {0, 4, 3, 4, 2, 4, 3, 4, 1, 4, 3, 4, 2, 4, 3, 4, 0};
         for (int k = 0; k <= 16; k++) {
@@ -456,7 +456,7 @@ public final class AnswerLimitsTest {
     }
 
     private static void edgeOddsOfFifteen() {
-        DUE.of("the odds of 15 FAULTS, the utmost ones");
+        DUE.of("u / 2^e, with the least e, 0 or more.", "the utmost of 15 faults");
         odds(oneEdge(times(15, 0)), 0, 0);
         odds(oneEdge(times(15, 16)), 1, 0);
         odds(oneEdge(times(15, 8)), 1, 1);
@@ -473,7 +473,7 @@ public final class AnswerLimitsTest {
     }
 
     private static void edgeOfFifteenFaults() {
-        DUE.of("edge: ArithmeticException: it has more than 15 FAULTS; not of 15");
+        DUE.of("ArithmeticException: it has more than 15 FAULTS (for 2, 3).", "not of 15");
         for (int k = 0; k <= 16; k++) {
             Tried x = oneEdge(times(15, k));
             DUE.is("checks", x.edge(0, 0), 1);
@@ -492,7 +492,7 @@ public final class AnswerLimitsTest {
     }
 
     private static void edgeOfSixteenFaults() {
-        DUE.of("edge: ArithmeticException: it has more than 15 FAULTS (for 2, 3)");
+        DUE.of("ArithmeticException: it has more than 15 FAULTS (for 2, 3).");
         for (int count : new int[] {16, 17, 31, 32, 33, 39, 40}) {
             for (int k : new int[] {0, 1, 8, 16}) {
                 Tried x = oneEdge(times(count, k));
@@ -521,7 +521,7 @@ public final class AnswerLimitsTest {
     }
 
     private static void edgeThatThrowsChangesNothing() {
-        DUE.of("edge: ArithmeticException for this EDGE alone, and nothing has changed");
+        DUE.of("ArithmeticException: it has more than 15 FAULTS (for 2, 3).", "this edge alone, and nothing has changed");
         LIMITS.changeNothing(AnswerLimitsTest::manyAndFew, x -> {
             for (int what = 2; what <= 3; what++) {
                 DUE.edgeThrows(x, 0, what);
@@ -534,7 +534,7 @@ public final class AnswerLimitsTest {
     }
 
     private static void runFaults() {
-        DUE.of("run: if just these FAULTS happen");
+        DUE.of("if just these FAULTS happen (a set),");
         for (int count : new int[] {1, 2, 31, 32, 33, 40}) {
             Tried x = made(y -> faultBeforeEachLook(y, count));
             DUE.is("none", x.run(0L, 0L), 0);
@@ -547,7 +547,7 @@ public final class AnswerLimitsTest {
     }
 
     private static void runRefused() {
-        DUE.of("run: NONE if faults has one that there is not");
+        DUE.of("NONE if faults has one that there is not.");
         for (int count : new int[] {0, 1, 2, 31, 32, 33, 39, 40}) {
             LIMITS.changeNothing(y -> faultBeforeEachLook(y, count), x -> {
                 for (long set : Limits.setsOutside(count)) {
@@ -567,7 +567,7 @@ public final class AnswerLimitsTest {
     }
 
     private static void runTells() {
-        DUE.of("run: RANDOM ones told what tells is (others of it count for nothing)");
+        DUE.of("and RANDOM ones told what tells is (others of it count for nothing),");
         for (int count : new int[] {1, 2, 31, 32, 33, 60}) {
             Tried x = made(y -> randomLooks(y, count));
             for (int i = 0; i < 64; i++) {
@@ -587,7 +587,7 @@ public final class AnswerLimitsTest {
     }
 
     private static void runOfChangedRandoms() {
-        DUE.of("run: unless they are CHANGED");
+        DUE.of("unless they are CHANGED.");
         Tried x = new Tried();
         for (int i = 0; i < 60; i++) {
             x.gate(0, 0, 0);
@@ -606,7 +606,7 @@ public final class AnswerLimitsTest {
     }
 
     private static void runWithoutLooks() {
-        DUE.of("run: what all LOOKS tell, where there is none");
+        DUE.of("What all LOOKS tell, as a set,", "where there is none");
         for (long tells : UTMOST) {
             DUE.is("new", new Tried().run(0L, tells), 0);
         }

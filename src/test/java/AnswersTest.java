@@ -56,6 +56,7 @@ public final class AnswersTest {
     }
 
     private static void outcomeOfGates() {
+        DUE.of("Of a LOOK's OUTCOME, what 0: the constant, 1: the set of RANDOM LOOKS.", "sure looks");
         looks("nothing", 3, 0);
         looks("x", 2, 2, X, 1, 0);
         looks("z", 2, 0, Z, 1, 0);
@@ -69,6 +70,7 @@ public final class AnswersTest {
     }
 
     private static void outcomeOfSigns() {
+        DUE.of("Of a LOOK's OUTCOME, what 0: the constant, 1: the set of RANDOM LOOKS.", "signs");
         looks("h h", 1, 0, H, 0, 0, H, 0, 0);
         looks("h z h", 1, 1, H, 0, 0, Z, 0, 0, H, 0, 0);
         looks("h x h", 1, 0, H, 0, 0, X, 0, 0, H, 0, 0);
@@ -82,6 +84,7 @@ public final class AnswersTest {
     }
 
     private static void outcomeOfResets() {
+        DUE.of("Of a LOOK's OUTCOME, what 0: the constant, 1: the set of RANDOM LOOKS.", "resets");
         Tried x = circuit(2, H, 0, 0);
         DUE.is("reset", x.look(0, true), 0);
         x.look(0, false);
@@ -102,6 +105,7 @@ public final class AnswersTest {
     }
 
     private static void outcomeOfPairs() {
+        DUE.of("Of a LOOK's OUTCOME, what 0: the constant, 1: the set of RANDOM LOOKS.", "wires tied together");
         Tried x = circuit(3, H, 0, 0, CX, 0, 1, CX, 1, 2, X, 1, 0);
         x.look(2, true);
         x.look(1, false);
@@ -134,6 +138,8 @@ public final class AnswersTest {
     }
 
     private static void told() {
+        DUE.of("Of a CHECK, what 0: 1 if it is SURE, else 0, 1: the exclusive or of its constants,"
+            + " 2: the set of RANDOM LOOKS it hangs on.");
         Tried x = circuit(3, H, 0, 0, CX, 0, 1, X, 1, 0, H, 2, 0);
         for (int a = 0; a < 3; a++) {
             x.look(a, false);
@@ -167,6 +173,7 @@ public final class AnswersTest {
     }
 
     private static void changesThroughGates() {
+        DUE.of("Of a FAULT, what 0: the LOOKS that it CHANGES,", "behind gates");
         changed("nothing", 2, 1, 1, 0);
         changed("h", 1, 0, 1, 1, H, 0, 0);
         changed("h of another", 2, 1, 1, 0, H, 1, 0);
@@ -185,6 +192,7 @@ public final class AnswersTest {
     }
 
     private static void changesAtLooks() {
+        DUE.of("Of a FAULT, what 0: the LOOKS that it CHANGES,", "at looks and resets");
         Tried x = circuit(2);
         x.look(0, false);
         x.fault(0, 0, 1);
@@ -222,6 +230,7 @@ public final class AnswersTest {
     }
 
     private static void changesOfChecks() {
+        DUE.of("1: the CHECKS (an odd number of whose LOOKS it CHANGES), as a set.");
         Tried x = circuit(3);
         x.look(0, false);
         x.check(1L);
@@ -252,6 +261,7 @@ public final class AnswersTest {
     }
 
     private static void edgesTogether() {
+        DUE.of("Of the i-th EDGE, what 0: its CHECKS, as a set, 1: its FAULTS, 2: u of its odds, 3: e.");
         Tried x = circuit(4);
         x.fault(0, 3, 16);
         x.fault(0, 1, 4);
@@ -306,6 +316,7 @@ public final class AnswersTest {
     }
 
     private static void edgeOdds() {
+        DUE.of("2: u of its odds, 3: e.");
         for (int k = 0; k <= 16; k++) {
             odds(k);
             for (int j = 0; j <= 16; j++) {
@@ -331,6 +342,7 @@ public final class AnswersTest {
     }
 
     private static void edgeWithManyFaults() {
+        DUE.of("ArithmeticException: it has more than 15 FAULTS (for 2, 3).");
         int[] many = new int[16];
         Tried x = oneEdge(many);
         edge("16 that never happen", x, 0, 1, 0xffff);
@@ -359,6 +371,8 @@ public final class AnswersTest {
     }
 
     private static void run() {
+        DUE.of("What all LOOKS tell, as a set, if just these FAULTS happen (a set), and RANDOM ones told what"
+            + " tells is (others of it count for nothing), unless they are CHANGED.");
         Tried x = circuit(3, H, 0, 0);
         x.fault(0, 0, 0);
         x.fault(0, 2, 16);
@@ -401,6 +415,7 @@ public final class AnswersTest {
     }
 
     private static void wrongNumbers() {
+        DUE.of("3: e. NONE if there is none such, or for another what.", "outcome, told and changes likewise");
         Tried x = circuit(2, H, 0, 0);
         x.fault(0, 0, 1);
         x.look(0, false);

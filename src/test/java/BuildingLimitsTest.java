@@ -83,7 +83,7 @@ public final class BuildingLimitsTest {
     }
 
     private static void newObject() {
-        DUE.of("FrameSamples(): One WIRE");
+        DUE.of("One WIRE.");
         DUE.totals("new", new Tried(), 1, 0, 0, 0, 0, 0);
         for (int a : Limits.outside(0, 0)) {
             LIMITS.changeNothing(x -> { }, x -> {
@@ -99,7 +99,7 @@ public final class BuildingLimitsTest {
     }
 
     private static void allWiresAreZero() {
-        DUE.of("WIRES 0 .. n - 1, all 0 at first");
+        DUE.of("WIRES 0 .. n - 1 (n is 1 .. 10), all 0 at first.");
         for (int n = 1; n <= 10; n++) {
             Tried x = made(Limits::some);
             x.begin(n);
@@ -112,7 +112,7 @@ public final class BuildingLimitsTest {
     }
 
     private static void beginTaken() {
-        DUE.of("begin: n WIRES (n is 1 .. 10): true");
+        DUE.of("n WIRES, no ACTS, no CHECKS: true;");
         for (Consumer<Tried> state : STATES) {
             for (int n = 1; n <= 10; n++) {
                 Tried x = made(state);
@@ -130,7 +130,7 @@ public final class BuildingLimitsTest {
     }
 
     private static void beginRefused() {
-        DUE.of("begin: false, changing nothing, for another n");
+        DUE.of("false, changing nothing, for another n.");
         for (Consumer<Tried> state : STATES) {
             LIMITS.changeNothing(state, x -> {
                 for (int n : Limits.outside(1, 10)) {
@@ -141,7 +141,7 @@ public final class BuildingLimitsTest {
     }
 
     private static void beginForgets() {
-        DUE.of("begin: no ACTS, no CHECKS");
+        DUE.of("n WIRES, no ACTS, no CHECKS: true;", "behind some acts");
         for (int n : new int[] {1, 2, 10}) {
             LIMITS.comeToTheSame(x -> {
                 Limits.some(x);
@@ -159,13 +159,13 @@ public final class BuildingLimitsTest {
     }
 
     private static void beginForgetsFullRows() {
-        DUE.of("begin: no LOOKS, FAULTS, CHECKS where there were as many as there may be");
+        DUE.of("n WIRES, no ACTS, no CHECKS: true;", "where looks, faults, checks were full");
         Consumer<Tried> full = faults(40).andThen(looks(60, false)).andThen(checks(16, 3L << 58));
         LIMITS.comeToTheSame(wires(10).andThen(full).andThen(wires(4)).andThen(full), wires(4).andThen(full));
     }
 
     private static void beginForgetsAllActs() {
-        DUE.of("begin: no ACTS where there were 300");
+        DUE.of("n WIRES, no ACTS, no CHECKS: true;", "where there were 300 acts");
         Tried x = made(wires(2).andThen(gates(300)));
         DUE.is("gate 301", x.gate(5, 0, 0), false);
         DUE.is("begin", x.begin(2), true);
@@ -174,7 +174,7 @@ public final class BuildingLimitsTest {
     }
 
     private static void gateKinds() {
-        DUE.of("gate: false, changing nothing, if there is no such kind 0 .. 6");
+        DUE.of("false, changing nothing, if there is no such kind 0 .. 6,");
         for (int kind = 0; kind <= 6; kind++) {
             Tried x = made(wires(2));
             DUE.is("gate(" + kind + ", 1, 0)", x.gate(kind, 1, 0), true);
@@ -189,7 +189,7 @@ public final class BuildingLimitsTest {
     }
 
     private static void gateWires() {
-        DUE.of("gate: false, changing nothing, if there are no such WIRES (a)");
+        DUE.of("there are no such WIRES,", "a");
         for (int n : new int[] {2, 3, 10}) {
             for (int kind = 0; kind <= 6; kind++) {
                 DUE.is("the first wire", made(wires(n)).gate(kind, 0, 1), true);
@@ -207,7 +207,7 @@ public final class BuildingLimitsTest {
     }
 
     private static void gateSecondWires() {
-        DUE.of("gate: false, changing nothing, if there are no such WIRES (b, of 2 to 4)");
+        DUE.of("there are no such WIRES,", "b, of 2 to 4");
         for (int kind : TWO_WIRE_KINDS) {
             for (int n : new int[] {2, 3, 10}) {
                 DUE.is("the first wire", made(wires(n)).gate(kind, n - 1, 0), true);
@@ -229,7 +229,7 @@ public final class BuildingLimitsTest {
     }
 
     private static void gateSecondWireIsTheFirst() {
-        DUE.of("gate: false, changing nothing, if a is b (of 2 to 4)");
+        DUE.of("a is b (of 2 to 4),");
         for (int a = 0; a < 10; a++) {
             int both = a;
             for (int kind : TWO_WIRE_KINDS) {
@@ -243,7 +243,7 @@ public final class BuildingLimitsTest {
     }
 
     private static void gateSecondWireCountsForNothing() {
-        DUE.of("gate: b counts for nothing but for 2, 3, 4");
+        DUE.of("A GATE (b counts for nothing but for 2, 3, 4): true;");
         List<Integer> numbers = Limits.outside(0, -1);
         for (int kind : ONE_WIRE_KINDS) {
             LIMITS.comeToTheSame(x -> {
@@ -262,7 +262,7 @@ public final class BuildingLimitsTest {
     }
 
     private static void gateActs() {
-        DUE.of("gate: false, changing nothing, if there are 300 ACTS");
+        DUE.of("or there are 300 ACTS.");
         for (int kind = 0; kind <= 6; kind++) {
             int tried = kind;
             Tried x = made(wires(3).andThen(gates(299)));
@@ -277,7 +277,7 @@ public final class BuildingLimitsTest {
     }
 
     private static void actsOfAllKinds() {
-        DUE.of("ACTS, at most 300: GATES, LOOKS, RESETS and FAULTS, but no CHECKS");
+        DUE.of("ACTS, at most 300:", "gates, looks, resets and faults, but no checks");
         Tried x = made(wires(5).andThen(faults(40)).andThen(looks(30, true)));
         checks(15, all()).accept(x);
         DUE.totals("70 acts", x, 5, 70, 30, 40, 15, x.total(5));
@@ -292,7 +292,7 @@ public final class BuildingLimitsTest {
     }
 
     private static void lookWires() {
-        DUE.of("look: NONE if there is no such WIRE");
+        DUE.of("NONE if there is no such WIRE,");
         for (int n : new int[] {1, 2, 10}) {
             for (boolean reset : new boolean[] {false, true}) {
                 DUE.is("the first wire", made(wires(n)).look(0, reset), 0);
@@ -309,7 +309,7 @@ public final class BuildingLimitsTest {
     }
 
     private static void lookNumbers() {
-        DUE.of("look: its number from 0 on; NONE if there are 60 LOOKS (of RESETS, too)");
+        DUE.of("there are 60 LOOKS,");
         for (boolean reset : new boolean[] {false, true}) {
             Consumer<Tried> many = wires(3).andThen(gates(5)).andThen(faults(7)).andThen(looks(60, reset));
             LIMITS.changeNothing(many, x -> {
@@ -332,7 +332,7 @@ public final class BuildingLimitsTest {
     }
 
     private static void lookActs() {
-        DUE.of("look: NONE if there are 300 ACTS");
+        DUE.of("there are 60 LOOKS, or 300 ACTS.", "300 acts");
         for (boolean reset : new boolean[] {false, true}) {
             Consumer<Tried> all = wires(2).andThen(gates(299)).andThen(looks(1, reset));
             LIMITS.changeNothing(all, x -> {
@@ -349,7 +349,7 @@ public final class BuildingLimitsTest {
     }
 
     private static void faultWhats() {
-        DUE.of("fault: NONE if there is no such what (0 .. 2)");
+        DUE.of("NONE if there is no such what,");
         for (int what = 0; what <= 2; what++) {
             DUE.is("fault(" + what + ", 0, 1)", made(wires(1)).fault(what, 0, 1), 0);
         }
@@ -361,7 +361,7 @@ public final class BuildingLimitsTest {
     }
 
     private static void faultWires() {
-        DUE.of("fault: NONE if there is no such WIRE");
+        DUE.of("NONE if there is no such what, WIRE,", "wire");
         for (int n : new int[] {1, 2, 10}) {
             DUE.is("the first wire", made(wires(n)).fault(0, 0, 1), 0);
             DUE.is("the last wire", made(wires(n)).fault(0, n - 1, 1), 0);
@@ -377,7 +377,7 @@ public final class BuildingLimitsTest {
     }
 
     private static void faultOdds() {
-        DUE.of("fault: NONE if there is no such k (0 .. 16)");
+        DUE.of("NONE if there is no such what, WIRE, k,", "k");
         for (int k = 0; k <= 16; k++) {
             DUE.is("fault(0, 0, " + k + ")", made(wires(1)).fault(0, 0, k), 0);
         }
@@ -390,7 +390,7 @@ public final class BuildingLimitsTest {
     }
 
     private static void faultNumbers() {
-        DUE.of("fault: its number from 0 on; NONE if there are 40");
+        DUE.of("there are 40,");
         Consumer<Tried> many = wires(3).andThen(gates(5)).andThen(faults(40));
         LIMITS.changeNothing(many, x -> {
             for (int what = 0; what <= 2; what++) {
@@ -407,7 +407,7 @@ public final class BuildingLimitsTest {
     }
 
     private static void faultActs() {
-        DUE.of("fault: NONE if there are 300 ACTS");
+        DUE.of("there are 40, or 300 ACTS.", "300 acts");
         Consumer<Tried> all = wires(2).andThen(gates(299)).andThen(faults(1));
         LIMITS.changeNothing(all, x -> {
             for (int what = 0; what <= 2; what++) {
@@ -421,7 +421,7 @@ public final class BuildingLimitsTest {
     }
 
     private static void checkLooksThatAreThere() {
-        DUE.of("check: its number; LOOK i is 2^i");
+        DUE.of("A CHECK: its number.");
         for (int count : new int[] {1, 2, 31, 32, 33, 59, 60}) {
             Tried x = made(wires(2).andThen(looks(count, false)));
             DUE.is("the first look", x.check(1L), 0);
@@ -431,7 +431,7 @@ public final class BuildingLimitsTest {
     }
 
     private static void checkLooksThatAreNotThereYet() {
-        DUE.of("check: NONE if a LOOK is not there (yet)");
+        DUE.of("NONE if a LOOK is not there (yet),");
         for (int count : new int[] {0, 1, 2, 31, 32, 33, 59, 60}) {
             LIMITS.changeNothing(wires(2).andThen(faults(3)).andThen(looks(count, false)), x -> {
                 for (long set : Limits.setsOutside(count)) {
@@ -453,7 +453,7 @@ public final class BuildingLimitsTest {
     }
 
     private static void checkWithoutLooks() {
-        DUE.of("check: a set of LOOKS, the empty one");
+        DUE.of("A CHECK is a set of LOOKS", "the empty one");
         for (Consumer<Tried> state : List.of(wires(1), wires(2).andThen(gates(3)).andThen(looks(60, true)))) {
             Tried x = made(state);
             DUE.is("check(0)", x.check(0L), 0);
@@ -464,7 +464,7 @@ public final class BuildingLimitsTest {
     }
 
     private static void checkNumbers() {
-        DUE.of("check: NONE if there are 16");
+        DUE.of("or there are 16.");
         Consumer<Tried> many = wires(3).andThen(faults(4)).andThen(looks(3, false)).andThen(checks(16, 5L));
         LIMITS.changeNothing(many, x -> {
             for (long set = 0L; set < 8L; set++) {
@@ -477,7 +477,7 @@ public final class BuildingLimitsTest {
     }
 
     private static void totalWhats() {
-        DUE.of("total: NONE for another what");
+        DUE.of("5: EDGES. NONE for another what.");
         DUE.totals("some", made(Limits::some), 3, 20, 3, 6, 2, 2);
         DUE.totals("full", made(Limits::full), 10, 300, 60, 40, 16, 22);
         for (Consumer<Tried> state : STATES) {

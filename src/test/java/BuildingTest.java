@@ -22,6 +22,7 @@ public final class BuildingTest {
     }
 
     private static void newObject() {
+        DUE.of("One WIRE.");
         Tried x = new Tried();
         DUE.totals("new", x, 1, 0, 0, 0, 0, 0);
         DUE.is("new: gate on wire 1", x.gate(0, 1, 0), false);
@@ -32,6 +33,7 @@ public final class BuildingTest {
     }
 
     private static void begin() {
+        DUE.of("n WIRES, no ACTS, no CHECKS: true; false, changing nothing, for another n.");
         for (int n = 1; n <= 10; n++) {
             Tried x = wires(n);
             DUE.totals("begin " + n, x, n, 0, 0, 0, 0, 0);
@@ -67,6 +69,7 @@ public final class BuildingTest {
     }
 
     private static void gate() {
+        DUE.of("A GATE (b counts for nothing but for 2, 3, 4): true;");
         Tried x = wires(3);
         int acts = 0;
         for (int kind = 0; kind <= 6; kind++) {
@@ -91,6 +94,7 @@ public final class BuildingTest {
     }
 
     private static void wrongGatesChangeNothing() {
+        DUE.of("false, changing nothing, if there is no such kind 0 .. 6, there are no such WIRES,");
         Tried x = wires(2);
         x.gate(5, 0, 0);
         x.fault(0, 0, 1);
@@ -107,6 +111,7 @@ public final class BuildingTest {
     }
 
     private static void lookNumbers() {
+        DUE.of("A LOOK at a WIRE (or, reset, a RESET): its number.");
         Tried x = wires(4);
         for (int i = 0; i < 60; i++) {
             for (int a : NUMBERS_OUTSIDE) {
@@ -123,6 +128,7 @@ public final class BuildingTest {
     }
 
     private static void faultNumbers() {
+        DUE.of("A FAULT: x, y, z (what 0 .. 2) of a WIRE, with odds k / 16: its number.");
         Tried x = wires(4);
         for (int i = 0; i < 40; i++) {
             DUE.is("fault", x.fault(i % 3, i % 4, i % 17), i);
@@ -147,6 +153,7 @@ public final class BuildingTest {
     }
 
     private static void checkNumbers() {
+        DUE.of("A CHECK: its number. NONE if a LOOK is not there (yet), or there are 16.");
         Tried x = wires(2);
         DUE.is("look 0 is not there yet", x.check(1L), -1);
         DUE.is("no looks", x.check(0L), 0);
@@ -177,6 +184,7 @@ public final class BuildingTest {
     }
 
     private static void actsEnd() {
+        DUE.of("ACTS, at most 300:");
         Tried x = wires(3);
         x.look(0, false);
         x.look(0, true);
@@ -205,6 +213,7 @@ public final class BuildingTest {
     }
 
     private static void total() {
+        DUE.of("What 0: WIRES, 1: ACTS, 2: LOOKS, 3: FAULTS, 4: CHECKS, 5: EDGES.");
         Tried x = wires(5);
         x.gate(0, 0, 0);
         x.fault(0, 1, 4);

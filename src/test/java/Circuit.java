@@ -3,6 +3,7 @@ import java.util.ArrayList;
 import java.util.LinkedHashMap;
 import java.util.List;
 import java.util.Map;
+import java.util.Random;
 
 /** A circuit as a list of acts, run act by act on all amplitudes, and its faults followed one by one. */
 final class Circuit {
@@ -14,11 +15,59 @@ final class Circuit {
     /** Of each act: kind (9 of a fault), a, b (of a fault: what), k. */
     final List<int[]> acts = new ArrayList<>();
     final List<Long> checks = new ArrayList<>();
+    /** How far, in the last sample, a look's odds of 1 were from the nearest of 0, 1/2 and 1. */
+    double furthest;
     private double[] re;
     private double[] im;
 
     Circuit(int wires) {
         this.wires = wires;
+    }
+
+    /** A circuit of acts that are all taken; kinds up to the given one. */
+    static Circuit byChance(Random random, int wires, int acts, int mostKind) {
+        Circuit circuit = new Circuit(wires);
+        while (circuit.acts.size() < acts) {
+            int kind = random.nextInt(mostKind + 1);
+            int a = random.nextInt(wires);
+            int b = (a + 1 + random.nextInt(Math.max(wires - 1, 1))) % wires;
+            if (kind == FAULT) {
+                circuit.addFault(random.nextInt(3), a, random.nextInt(17));
+            } else if (a != b || kind < 2 || kind > 4) {
+                circuit.add(kind, a, b);
+            }
+        }
+        return circuit;
+    }
+
+    /** A gate, look or reset. */
+    Circuit add(int kind, int a, int b) {
+        acts.add(new int[] {kind, a, b, 0});
+        return this;
+    }
+
+    Circuit addFault(int what, int a, int k) {
+        acts.add(new int[] {FAULT, a, what, k});
+        return this;
+    }
+
+    /** An object with this circuit. */
+    Tried built() {
+        Tried x = new Tried();
+        x.begin(wires);
+        for (int[] act : acts) {
+            if (act[0] == FAULT) {
+                x.fault(act[2], act[1], act[3]);
+            } else if (act[0] >= LOOK) {
+                x.look(act[1], act[0] == RESET);
+            } else {
+                x.gate(act[0], act[1], act[2]);
+            }
+        }
+        for (long looks : checks) {
+            x.check(looks);
+        }
+        return x;
     }
 
     int count(int least, int most) {
@@ -43,6 +92,7 @@ final class Circuit {
         long told = 0L;
         int look = 0;
         seen[0] = 0L;
+        furthest = 0.0;
         for (int[] act : acts) {
             if (act[0] == FAULT) {
                 continue;
@@ -52,6 +102,7 @@ final class Circuit {
                 continue;
             }
             double one = oddsOfOne(act[1]);
+            furthest = Math.max(furthest, Math.abs(one - Math.rint(2 * one) / 2));
             boolean random = one > 0.25 && one < 0.75;
             seen[0] |= random ? 1L << look : 0L;
             int bit = random ? (int) (tells >>> look & 1) : one > 0.5 ? 1 : 0;

@@ -1,15 +1,30 @@
+import java.io.IOException;
+import java.nio.file.Files;
+import java.nio.file.Path;
+import java.nio.file.StandardOpenOption;
+import java.util.ArrayList;
+import java.util.List;
+
 /** Compares answers with those that are due, and counts the wrong ones. */
 final class Due {
+    private final List<String> quotes = new ArrayList<>();
     private String sentence = "";
     private int wrong;
     private int looked;
     private int lookedBefore;
 
-    /** The document's sentence that the answers from here on belong to. */
-    void of(String words) {
+    /** The document's words, as they stand there, that the answers from here on belong to. */
+    String of(String words) {
+        return of(words, "");
+    }
+
+    /** The same, for one case of several. */
+    String of(String words, String which) {
         endSentence();
-        sentence = words;
+        sentence = which.isEmpty() ? words : words + " | " + which;
+        quotes.add(words);
         lookedBefore = looked;
+        return words;
     }
 
     private void endSentence() {
@@ -61,9 +76,24 @@ final class Due {
 
     void end() {
         endSentence();
+        keepQuotes();
         System.out.println(looked + " answers, " + wrong + " of them wrong");
         if (wrong != 0 || looked == 0) {
             System.exit(1);
+        }
+    }
+
+    /** For DocumentWords, which looks for words of the document that no test has quoted. */
+    private void keepQuotes() {
+        String file = System.getProperty("quotes");
+        if (file == null) {
+            return;
+        }
+        try {
+            Files.write(Path.of(file), quotes, StandardOpenOption.CREATE, StandardOpenOption.APPEND);
+        } catch (IOException e) {
+            wrong++;
+            System.out.println("the quotes can't be kept: " + e);
         }
     }
 }

@@ -1,12 +1,12 @@
 import java.util.ArrayList;
 import java.util.Collections;
 import java.util.List;
-import java.util.Map;
 import java.util.Random;
 
 /** Circuits by chance (of fixed seeds), each answer compared with a run on all amplitudes. */
 public final class OracleTest {
     private static final Due DUE = new Due();
+    private static final Oracle ORACLE = new Oracle(DUE);
 
     public static void main(String[] args) {
         for (int seed = 0; seed < 1500 && DUE.allRight(); seed++) {
@@ -41,10 +41,10 @@ public final class OracleTest {
                 addGate(x, circuit, random, seed);
             }
             if (random.nextInt(60) == 0) {
-                compare(x, circuit, random, seed);
+                ORACLE.compare(x, circuit, random, "seed " + seed);
             }
         }
-        compare(x, circuit, random, seed);
+        ORACLE.compare(x, circuit, random, "seed " + seed);
     }
 
     /** All limits at once: 300 acts, of them 60 looks and 40 faults, and 16 checks. */
@@ -66,13 +66,13 @@ public final class OracleTest {
         for (int i = 0; i < 20; i++) {
             addCheck(x, circuit, random, seed);
         }
-        compare(x, circuit, random, seed);
+        ORACLE.compare(x, circuit, random, "seed " + seed);
         DUE.totals("seed " + seed + ": full", x, wires, 300, 60, 40, 16);
         addGate(x, circuit, random, seed);
         addLook(x, circuit, random, seed);
         addFault(x, circuit, random, seed);
         addCheck(x, circuit, random, seed);
-        compare(x, circuit, random, seed);
+        ORACLE.compare(x, circuit, random, "seed " + seed);
     }
 
     /** Of 300: 60 looks, 40 faults, 200 gates, each tried until it is taken. */
@@ -103,7 +103,7 @@ public final class OracleTest {
             && (!two || b >= 0 && b < circuit.wires && a != b);
         DUE.is("seed " + seed + ": gate(" + kind + ", " + a + ", " + b + ")", x.gate(kind, a, b), good);
         if (good) {
-            circuit.acts.add(new int[] {kind, a, b, 0});
+            circuit.add(kind, a, b);
         }
     }
 
@@ -114,7 +114,7 @@ public final class OracleTest {
         boolean good = a >= 0 && a < circuit.wires && number < 60 && circuit.acts.size() < 300;
         DUE.is("seed " + seed + ": look(" + a + ", " + reset + ")", x.look(a, reset), good ? number : -1);
         if (good) {
-            circuit.acts.add(new int[] {reset ? Circuit.RESET : Circuit.LOOK, a, 0, 0});
+            circuit.add(reset ? Circuit.RESET : Circuit.LOOK, a, 0);
         }
     }
 
@@ -128,7 +128,7 @@ public final class OracleTest {
         DUE.is("seed " + seed + ": fault(" + what + ", " + a + ", " + k + ")", x.fault(what, a, k),
             good ? number : -1);
         if (good) {
-            circuit.acts.add(new int[] {Circuit.FAULT, a, what, k});
+            circuit.addFault(what, a, k);
         }
     }
 
@@ -147,86 +147,5 @@ public final class OracleTest {
         if (good) {
             circuit.checks.add(set);
         }
-    }
-
-    private static void compare(Tried x, Circuit circuit, Random random, int seed) {
-        String where = "seed " + seed + " at act " + circuit.acts.size();
-        DUE.totals(where, x, circuit.wires, circuit.acts.size(), circuit.looks(), circuit.faults(),
-            circuit.checks.size(), circuit.edges().size());
-        long randoms = compareOutcomes(x, circuit, where);
-        compareChanges(x, circuit, where);
-        compareEdges(x, circuit, where);
-        for (int i = 0; i < 4; i++) {
-            long set = random.nextLong() & (1L << circuit.faults()) - 1;
-            compareRun(x, circuit, set, random.nextLong(), randoms, where);
-        }
-    }
-
-    /** The random looks. */
-    private static long compareOutcomes(Tried x, Circuit circuit, String where) {
-        long[] seen = new long[1];
-        long constants = circuit.sample(0L, seen);
-        long randoms = seen[0];
-        long[] sets = new long[60];
-        for (int r = 0; r < circuit.looks(); r++) {
-            if ((randoms >>> r & 1) != 0) {
-                long differ = circuit.sample(1L << r, seen) ^ constants;
-                for (int i = 0; i < 60; i++) {
-                    sets[i] |= (differ >>> i & 1) << r;
-                }
-            }
-        }
-        for (int i = 0; i < circuit.looks(); i++) {
-            DUE.is(where + ": outcome(" + i + ", 0)", x.outcome(i, 0), constants >>> i & 1);
-            DUE.is(where + ": outcome(" + i + ", 1)", x.outcome(i, 1), sets[i]);
-        }
-        for (int c = 0; c < circuit.checks.size(); c++) {
-            long looks = circuit.checks.get(c);
-            long set = 0L;
-            for (int i = 0; i < circuit.looks(); i++) {
-                set ^= (looks >>> i & 1) != 0 ? sets[i] : 0L;
-            }
-            DUE.is(where + ": told(" + c + ", 0)", x.told(c, 0), set == 0L ? 1 : 0);
-            DUE.is(where + ": told(" + c + ", 1)", x.told(c, 1), Long.bitCount(looks & constants) % 2);
-            DUE.is(where + ": told(" + c + ", 2)", x.told(c, 2), set);
-        }
-        return randoms;
-    }
-
-    private static void compareChanges(Tried x, Circuit circuit, String where) {
-        for (int f = 0; f < circuit.faults(); f++) {
-            DUE.is(where + ": changes(" + f + ", 0)", x.changes(f, 0), circuit.changed(f));
-            DUE.is(where + ": changes(" + f + ", 1)", x.changes(f, 1), circuit.changedChecks(f));
-        }
-    }
-
-    private static void compareEdges(Tried x, Circuit circuit, String where) {
-        int i = 0;
-        for (Map.Entry<Long, Long> edge : circuit.edges().entrySet()) {
-            DUE.is(where + ": edge(" + i + ", 0)", x.edge(i, 0), edge.getKey());
-            DUE.is(where + ": edge(" + i + ", 1)", x.edge(i, 1), edge.getValue());
-            if (Long.bitCount(edge.getValue()) > 15) {
-                DUE.edgeThrows(x, i, 2);
-                DUE.edgeThrows(x, i, 3);
-            } else {
-                long[] odds = circuit.odds(edge.getValue());
-                DUE.is(where + ": edge(" + i + ", 2)", x.edge(i, 2), odds[0]);
-                DUE.is(where + ": edge(" + i + ", 3)", x.edge(i, 3), odds[1]);
-            }
-            i++;
-        }
-        DUE.is(where + ": edge(" + i + ", 0)", x.edge(i, 0), -1);
-    }
-
-    private static void compareRun(Tried x, Circuit circuit, long faults, long tells, long randoms,
-            String where) {
-        long changed = 0L;
-        for (int f = 0; f < circuit.faults(); f++) {
-            changed ^= (faults >>> f & 1) != 0 ? circuit.changed(f) : 0L;
-        }
-        String call = where + ": run(" + faults + ", " + tells + ")";
-        long told = x.run(faults, tells);
-        DUE.is(call, told, circuit.sample(tells, new long[1]) ^ changed);
-        DUE.is(call + " can happen", circuit.leastOdds(told, faults, randoms) > 0.9, true);
     }
 }
